@@ -670,7 +670,6 @@ public final class SaintsAhead {
 
         void remove(int child) {
             there &= ~(1 << child);
-            fallen &= ~(1 << child);
             freeParts(child);
         }
 

@@ -239,6 +239,11 @@ final class Model {
         return l;
     }
 
+    /** For drawing ACTS that can be; of a PAD with a FAULT it is what it is. */
+    World endOfPad() {
+        return lived().end;
+    }
+
     private int refusal() {
         return fault() != NONE ? NO : lived().barred != NONE ? STATE : 0;
     }

@@ -2,7 +2,7 @@ import java.util.Random;
 
 /** Long runs of drawn calls, each answer held against the Model; the draws are the same each time. */
 public final class ModelTest {
-    private static final int RUNS = 400, CALLS = 512;
+    private static final int RUNS = 800, CALLS = 512;
     private static final int[] WILD = {Integer.MIN_VALUE, Integer.MAX_VALUE, -7, -2, 64, 1000, 4096, 65537, 1 << 16};
     private static final Checks c = new Checks();
 
@@ -62,45 +62,56 @@ public final class ModelTest {
             hold("say " + sign, x.say(sign), m.say(sign));
             return;
         }
-        switch (draw.nextInt(4)) {
-            case 0: settle(); break;
-            case 1: years(); break;
-            case 2: reckon(); break;
-            default: learn(); break;
+        if (call < 6 && draw.nextInt(5) > 0) {
+            enter(call);
+            return;
         }
+        int lot = draw.nextInt(20);
+        if (lot < 4) {
+            settle();
+        } else if (lot < 11) {
+            years();
+        } else if (lot < 16) {
+            reckon();
+        } else {
+            learn();
+        }
+    }
+
+    private void enter(int child) {
+        int b = deeds();
+        int d = deeds();
+        int e = deeds();
+        hold("child " + child, x.child(child, b, d, e), m.child(child, b, d, e));
     }
 
     private void settle() {
         int a = num(0, 5);
-        int b = deeds();
-        int d = deeds();
-        int e = deeds();
         switch (draw.nextInt(9)) {
-            case 0:
-            case 1: hold("child " + a, x.child(a, b, d, e), m.child(a, b, d, e)); break;
-            case 2:
-                if (draw.nextInt(3) == 0) {
+            case 0: enter(a); break;
+            case 1:
+                if (draw.nextInt(5) == 0) {
                     hold("leave " + a, x.leave(a), m.leave(a));
                 }
                 break;
-            case 3:
+            case 2:
                 int which = num(0, 2);
                 int v = draw.nextInt(4) == 0 ? num(0, 9) : num(0, 3);
                 hold("law " + which + " " + v, x.law(which, v), m.law(which, v));
                 break;
-            case 4:
+            case 3:
                 int parish = num(0, 3);
                 int purse = draw.nextBoolean() ? num(0, 999) : draw.nextBoolean() ? num(0, 30) : num(970, 999);
                 hold("purse " + parish + " " + purse, x.purse(parish, purse), m.purse(parish, purse));
                 break;
+            case 4:
             case 5:
-            case 6:
                 int costs = num(0, 99);
                 int worth = draw.nextBoolean() ? num(0, 999) : num(0, 4);
-                int days = draw.nextBoolean() ? num(0, 4095) : num(0, 15) << draw.nextInt(3);
+                int days = draw.nextInt(4) == 0 ? num(0, 4095) : num(0, 7) << draw.nextInt(2);
                 hold("offer " + a + " " + days, x.offer(a, costs, worth, days), m.offer(a, costs, worth, days));
                 break;
-            case 7:
+            case 6:
                 int witness = num(0, 7);
                 int saw = num(0, 1023) & (draw.nextBoolean() ? -1 : draw.nextInt());
                 hold("witness " + witness + " " + saw, x.witness(witness, saw), m.witness(witness, saw));
@@ -112,7 +123,20 @@ public final class ModelTest {
         }
     }
 
-    private String act() {
+    /** Mostly one that can be behind those that are said already. */
+    private String actToSay(Model.World then) {
+        String act = anyAct();
+        for (int i = 0; i < 9 && draw.nextInt(40) > 0; i++) {
+            Model.World tried = then.copy();
+            if (act.length() > 1 && act.charAt(0) != '.' && tried.live(act) == 0) {
+                break;
+            }
+            act = anyAct();
+        }
+        return act;
+    }
+
+    private String anyAct() {
         String children = "ABCDEF";
         String there = "";
         for (int k = 0; k < 6; k++) {
@@ -122,21 +146,17 @@ public final class ModelTest {
         char who = from.charAt(draw.nextInt(from.length()));
         char parish = (char) ('a' + draw.nextInt(4));
         int lot = draw.nextInt(24);
-        if (lot == 0) {
+        if (lot == 0 && draw.nextInt(4) == 0) {
             return "" + (char) (33 + draw.nextInt(94));
         }
-        if (lot < 3) {
+        if (lot < 2) {
             return draw.nextInt(4) == 0 ? "...................." : ".";
         }
         if (lot < 9) {
             return "" + who + draw.nextInt(8) + parish;
         }
-        if (lot < 12) {
+        if (lot < 14) {
             return "f" + parish + who;
-        }
-        if (lot < 15) {
-            int part = draw.nextInt(8);
-            return "" + who + part + parish + "f" + parish + who;
         }
         return "" + who + "wwwsspeex".charAt(draw.nextInt(9));
     }
@@ -148,14 +168,24 @@ public final class ModelTest {
         switch (draw.nextInt(12)) {
             case 0:
             case 1:
-                int acts = 1 + draw.nextInt(draw.nextInt(8) == 0 ? 30 : 4);
+                int acts = 1 + draw.nextInt(draw.nextInt(8) == 0 ? 30 : 5);
+                Model.World then = m.endOfPad();
                 for (int i = 0; i < acts; i++) {
-                    toSay += act();
+                    String act = actToSay(then);
+                    toSay += act;
+                    if (act.length() > 1 && act.charAt(0) != '.') {
+                        then.live(act);
+                    }
                 }
                 break;
-            case 2: hold("say " + what, x.say(what), m.say(what)); break;
+            case 2:
+                int sign = num(33, 126);
+                if (draw.nextInt(9) == 0 || sign < 33 || sign > 126) {
+                    hold("say " + sign, x.say(sign), m.say(sign));
+                }
+                break;
             case 3:
-                if (m.fault() != -6 || draw.nextInt(4) == 0) {
+                if (m.judge(0) != -6) {
                     hold("wipe", x.wipe(), m.wipe());
                 }
                 break;
@@ -163,7 +193,7 @@ public final class ModelTest {
             case 5: hold("judge " + what, x.judge(what), m.judge(what)); break;
             case 6: hold("behind " + child + " " + what, x.behind(child, what), m.behind(child, what)); break;
             case 7: hold("holds " + parish + " " + child, x.holds(parish, child), m.holds(parish, child)); break;
-            case 8: hold("wrong " + what, x.wrong(what % 3), m.wrong(what % 3)); break;
+            case 8: hold("wrong " + what / 2, x.wrong(what / 2), m.wrong(what / 2)); break;
             case 9: hold("done", x.done(), m.done()); break;
             case 10: hold("saints", x.saints(), m.saints()); break;
             default: hold("lacks " + child, x.lacks(child), m.lacks(child)); break;

@@ -36,6 +36,16 @@ public final class ReckoningTest {
         fraction(x, 4, 5, 5, 4, 11, 16);
         fraction(x, 8, 10, 0, 8, 1, 1);
         fraction(x, 8, 0, 10, 0, 0, 1);
+        x.law(0, 0);
+        x.law(1, 9);
+        fraction(x, 8, 0, 10, 0, 1, 1);
+        x.law(1, 7);
+        fraction(x, 8, 0, 5, 0, 255, 256);
+        fraction(x, 8, 0, 5, 1, 1, 1);
+        x.law(0, 8);
+        fraction(x, 8, 5, 0, 0, 1, 256);
+        x.law(0, 2);
+        x.law(1, 1);
         x.law(2, 2);
         fraction(x, 2, 10, 0, 0, 0, 1);
         x.child(0, 99, 99, 2);
@@ -215,6 +225,10 @@ public final class ReckoningTest {
         playing(x, 1, 1, 1);
         x.child(0, 2, 2, 1);
         playing(x, 1, 1, 1);
+        x.law(0, 1);
+        x.child(0, 0, 1, 1);
+        playing(x, 1, 1, 1);
+        x.law(0, 2);
         x.child(0, 2, 0, 1);
         playing(x, 1, 1, 1);
         playing(x, 2, 1, 1);

@@ -173,6 +173,8 @@ public final class YearsTest {
         x.purse(0, 985);
         c.tell(x, "B1aBx");
         c.due("all of what is above is lost", x.holds(0, -1), 995);
+        c.due("A is fallen behind B's fall", x.behind(0, 4), 1);
+        c.due("B is fallen", x.behind(1, 4), 1);
     }
 
     private static void wrong() {
