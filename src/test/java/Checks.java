@@ -2,12 +2,22 @@
 final class Checks {
     private int calls = 0;
     private int wrong = 0;
+    private String about = "";
+
+    /** What is wrong from now on is printed as being about this. */
+    void begin(String newAbout) {
+        about = newAbout + ": ";
+    }
+
+    int calls() {
+        return calls;
+    }
 
     void due(String call, long got, long want) {
         calls++;
         if (got != want) {
             wrong++;
-            System.out.println(call + " answered " + got + ", due is " + want);
+            System.out.println(about + call + " answered " + got + ", due is " + want);
         }
     }
 
@@ -22,6 +32,12 @@ final class Checks {
     void retell(SaintsAhead x, String text) {
         x.wipe();
         tell(x, text);
+    }
+
+    /** Years that can be, and are done. */
+    void live(SaintsAhead x, String text, int acts) {
+        retell(x, text);
+        due("done of " + text, x.done(), acts);
     }
 
     void end() {
