@@ -38,21 +38,26 @@ public final class BoundsPromises1Test {
 
     @Sentence(in = "Promise 2", says = "A CHILD is there (or anew: WONDERS, SINS, SEEN; not FALLEN, no PARTS held): how many are.")
     static void childAnewBeginsAgain() {
-        SaintsAhead x = new SaintsAhead();
-        x.child(0, 99, 99, 99);
-        c.live(x, "A0aA7d", 2);
-        c.due("anew", x.child(0, 0, 0, 0), 1);
-        for (int what = 50; what < 54; what++) {
-            c.due("told " + what, x.told(what), 0);
+        for (int k = 0; k < 6; k++) {
+            SaintsAhead x = new SaintsAhead();
+            char letter = (char) ('A' + k);
+            int told = 50 * (1 + k);
+            x.child(k, 99, 99, 99);
+            c.live(x, letter + "0a" + letter + "7d", 2);
+            c.due("anew " + k, x.child(k, 0, 0, 0), 1);
+            for (int what = 0; what < 4; what++) {
+                c.due("told " + (told + what), x.told(told + what), 0);
+            }
+            for (int part = 0; part < 8; part++) {
+                c.due("part " + part, x.told(told + 10 + part), -6);
+            }
+            c.due("a's purse stays", x.told(10), 90);
+            c.due("d's purse stays", x.told(13), 90);
+            c.live(x, letter + "x", 1);
+            c.due("fallen", x.told(told + 3), 1);
+            c.due("anew again " + k, x.child(k, 0, 0, 0), 1);
+            c.due("not fallen", x.told(told + 3), 0);
         }
-        for (int part = 0; part < 8; part++) {
-            c.due("part " + part, x.told(60 + part), -6);
-        }
-        c.due("a's purse stays", x.told(10), 90);
-        c.due("d's purse stays", x.told(13), 90);
-        c.live(x, "Ax", 1);
-        c.due("anew", x.child(0, 0, 0, 0), 1);
-        c.due("not fallen", x.told(53), 0);
     }
 
     @Sentence(in = "Promise 2", says = "UNKNOWN: the number; OUTSIDE.")

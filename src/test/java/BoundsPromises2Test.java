@@ -228,9 +228,12 @@ public final class BoundsPromises2Test {
         }
         c.due("of a full row", x.forget(), 8);
         c.due("again", x.forget(), 0);
-        // What was made no saint before must not be so of the new one.
+        // What was made a saint before, or not, must not be so of the new one.
         c.due("one anew", x.seen(9, 0, true), 1);
         c.due("all laws fit again", x.laws(-1), 100);
+        c.due("of one again", x.forget(), 1);
+        c.due("another anew", x.seen(0, 9, false), 1);
+        c.due("all laws but one fit", x.laws(-1), 99);
     }
 
     @Sentence(in = "Promise 26", says = "LAWS: how many (i = -1), the i-th; NONE.")
@@ -298,6 +301,7 @@ public final class BoundsPromises2Test {
 
     /** All that an image keeps is changed. */
     private static void changeAll(SaintsAhead x) {
+        x.child(0, 7, 7, 7);
         x.leave(0);
         x.child(1, 3, 3, 3);
         for (int i = 0; i < 3; i++) {
@@ -311,6 +315,8 @@ public final class BoundsPromises2Test {
         }
         x.offer(0, 7, 7, 7);
         x.forget();
+        x.seen(7, 7, false);
+        x.seen(8, 8, true);
         c.live(x, ".Bx", 2);
     }
 
@@ -342,7 +348,8 @@ public final class BoundsPromises2Test {
                 c.due("witness " + i, x.told(20 + i), 0);
                 c.due("part " + i, x.told(60 + i), i == 0 || i == 7 ? 3 : -6);
             }
-            c.due("laws", x.laws(0), 9);
+            c.due("how many laws", x.laws(-1), 1);
+            c.due("the law", x.laws(0), 9);
         }
     }
 

@@ -46,6 +46,10 @@ public final class BoundsReckoningTest {
         fraction(x, 8, 0, 1, 0, 99999999, 100000000);
         x.law(1, 8);
         fraction(x, 8, 0, 10, 0, 1, 1);
+        x.law(1, 9);
+        fraction(x, 8, 5, 5, 0, 1, 1);
+        x.law(0, 8);
+        fraction(x, 8, 5, 5, 0, 1, 256);
     }
 
     @Sentence(in = "Terms", says = "a CHILD does a WONDER with t tenths, else a SIN with u tenths (t, u 0 to 10, "
@@ -316,6 +320,9 @@ public final class BoundsReckoningTest {
     @Sentence(in = "Terms", says = "the day of one in the first such way (the least SAINT's least day, and so on; none, NONE, "
             + "behind all).")
     static void theFirstWay() {
+        days(saintsWith(6, 6), 2, 1, 2);
+        days(saintsWith(2049, 2049), 2, 0, 11);
+        days(saintsWith(4095, 1, 4095), 3, 1, 0, 2);
         days(saintsWith(3, 1), 2, 1, 0);
         days(saintsWith(3, 2), 2, 0, 1);
         days(saintsWith(1, 1), 1, 0, -6);
@@ -363,6 +370,8 @@ public final class BoundsReckoningTest {
         playing(playedBy(0, 0, 5, 0), 1, 1, 1);
         playing(playedBy(0, 0, 5, 0), 2, 0, 0);
         playing(playedBy(0, 0, 5, 1), 1, 1, 1);
+        playing(playedBy(0, 0, 5, 2), 1, 0, 0);
+        playing(playedBy(0, 1, 5, 3), 1, 0, 0);
         playing(playedBy(0, 1, 5, 1), 1, 1, 2);
         playing(playedBy(0, 1, 5, 1), 2, 1, 1);
     }
